@@ -207,11 +207,7 @@ public final class BreathingHill {
             return NONE;
         }
         trial.copyFrom(hill);
-        int why = on == 1 ? hill.things[t].beTied() : hill.things[t].beLoosed();
-        if (why == 0) {
-            keepPast(trial);
-        }
-        return why;
+        return keptIfDone(on == 1 ? hill.things[t].beTied() : hill.things[t].beLoosed());
     }
 
     public int walk(int m, int cell) {
@@ -219,20 +215,12 @@ public final class BreathingHill {
             return NONE;
         }
         trial.copyFrom(hill);
-        int why = hill.walkMan(m, cell);
-        if (why == 0) {
-            keepPast(trial);
-        }
-        return why;
+        return keptIfDone(hill.walkMan(m, cell));
     }
 
     public int cough() {
         trial.copyFrom(hill);
-        int why = hill.coughOut();
-        if (why == 0) {
-            keepPast(trial);
-        }
-        return why;
+        return keptIfDone(hill.coughOut());
     }
 
     public int hours(int n) {
@@ -240,11 +228,7 @@ public final class BreathingHill {
             return NONE;
         }
         trial.copyFrom(hill);
-        int gone = hill.passHours(n);
-        if (gone > 0) {
-            keepPast(trial);
-        }
-        return gone;
+        return keptIfGone(hill.passHours(n));
     }
 
     public int drawn(int n, int seed) {
@@ -252,11 +236,7 @@ public final class BreathingHill {
             return NONE;
         }
         trial.copyFrom(hill);
-        int gone = hill.passDrawnHours(n, seed);
-        if (gone > 0) {
-            keepPast(trial);
-        }
-        return gone;
+        return keptIfGone(hill.passDrawnHours(n, seed));
     }
 
     public int undo() {
@@ -266,6 +246,21 @@ public final class BreathingHill {
         pastCount--;
         hill.copyFrom(past[pastCount]);
         return pastCount;
+    }
+
+    // the trial holds what was so ahead of the act
+    private int keptIfDone(int why) {
+        if (why == 0) {
+            keepPast(trial);
+        }
+        return why;
+    }
+
+    private int keptIfGone(int gone) {
+        if (gone > 0) {
+            keepPast(trial);
+        }
+        return gone;
     }
 
     private void keepPast(Hill asItWas) {
@@ -1263,20 +1258,13 @@ public final class BreathingHill {
     /** The reading of a LAND. */
     private static final class LandReader {
         private final int[] row = new int[4];
-        private boolean longTold = false;
-        private boolean breathTold = false;
-        private boolean forceTold = false;
-        private boolean fadeTold = false;
-        private boolean heldTold = false;
+        private final Token[] once = new Token[5];
+        private int onceCount = 0;
 
         /** How many LINES there are; NONE: a FAULT. */
         int readLand(Tape tape, Hill hill) {
             hill.makeEmpty();
-            longTold = false;
-            breathTold = false;
-            forceTold = false;
-            fadeTold = false;
-            heldTold = false;
+            onceCount = 0;
             tape.beginText(LAND_MOST);
             for (int lines = 0; lines < LAND_MOST; lines++) {
                 if (tape.token == Token.END) {
@@ -1326,33 +1314,37 @@ public final class BreathingHill {
             return tape.refuse(FAULT_TOKEN);
         }
 
+        /** Begins a LINE that may be told only once. */
+        private boolean beginOnce(Tape tape) {
+            for (int k = 0; k < onceCount; k++) {
+                if (once[k] == tape.token) {
+                    return tape.refuse(FAULT_TOLD);
+                }
+            }
+            if (onceCount < once.length) {
+                once[onceCount] = tape.token;
+                onceCount++;
+            }
+            tape.readToken();
+            return true;
+        }
+
         private boolean readLong(Tape tape, Hill hill) {
-            if (longTold || hill.thingCount + hill.millCount + hill.manCount > 0) {
+            if (hill.thingCount + hill.millCount + hill.manCount > 0) {
                 return tape.refuse(FAULT_TOLD);
             }
-            longTold = true;
-            tape.readToken();
             int[] cells = hill.land.cells;
-            return tape.takeNumber(1, 20, cells, 0) && tape.takeNumber(1, 20, cells, 1);
+            return beginOnce(tape) && tape.takeNumber(1, 20, cells, 0) && tape.takeNumber(1, 20, cells, 1);
         }
 
         private boolean readBreath(Tape tape, Land land) {
-            if (breathTold) {
-                return tape.refuse(FAULT_TOLD);
-            }
-            breathTold = true;
-            tape.readToken();
-            return tape.takeNumber(1, 12, land.breath, 0) && tape.takeNumber(0, 12, land.breath, 1)
+            return beginOnce(tape)
+                && tape.takeNumber(1, 12, land.breath, 0) && tape.takeNumber(0, 12, land.breath, 1)
                 && tape.takeNumber(1, 12, land.breath, 2) && tape.takeNumber(0, 12, land.breath, 3);
         }
 
         private boolean readForce(Tape tape, Land land) {
-            if (forceTold) {
-                return tape.refuse(FAULT_TOLD);
-            }
-            forceTold = true;
-            tape.readToken();
-            if (!tape.takeNumber(1, 9, row, 0)) {
+            if (!beginOnce(tape) || !tape.takeNumber(1, 9, row, 0)) {
                 return false;
             }
             land.force = row[0];
@@ -1360,12 +1352,7 @@ public final class BreathingHill {
         }
 
         private boolean readFade(Tape tape, Land land) {
-            if (fadeTold) {
-                return tape.refuse(FAULT_TOLD);
-            }
-            fadeTold = true;
-            tape.readToken();
-            if (!tape.takeNumber(1, 20, row, 0)) {
+            if (!beginOnce(tape) || !tape.takeNumber(1, 20, row, 0)) {
                 return false;
             }
             land.fade = row[0];
@@ -1373,12 +1360,7 @@ public final class BreathingHill {
         }
 
         private boolean readHeld(Tape tape, Land land) {
-            if (heldTold) {
-                return tape.refuse(FAULT_TOLD);
-            }
-            heldTold = true;
-            tape.readToken();
-            if (!tape.takeNumber(0, 99, row, 0)) {
+            if (!beginOnce(tape) || !tape.takeNumber(0, 99, row, 0)) {
                 return false;
             }
             land.held = row[0];

@@ -195,12 +195,25 @@ public final class ActsTest {
         Checks.due("17: the prices stay", x.price(0), -30);
         Checks.due("17: what was logged stays", x.logged(2), 9);
         BreathingHill y = Checks.hill("thing a 0 9 9 0;");
+        y.drawn(1, 3);
+        Checks.due("17: one hour drawn", y.undo(), 0);
         Checks.passTo(y, 1000);
-        int kept = y.undo();
-        Checks.passTo(y, 1000);
+        y.image(0);
+        y.restore(0);
         Checks.due("17: hours() of 0 ", y.hours(1), 0);
+        Checks.due("17: is not kept", y.undo(), -1);
         Checks.due("17: drawn() of 0 ", y.drawn(1, 1), 0);
-        Checks.due("17: are not kept", y.undo(), kept);
+        Checks.due("17: is not kept either", y.undo(), -1);
+        BreathingHill z = Checks.hill("breath 4 0 1 0;passage 2 1 0;passage 3 9 5;thing a 0 0 4 6;mill m 0 0;");
+        String[] states = new String[7];
+        for (int k = 0; k < 7; k++) {
+            states[k] = state(z);
+            z.hours(1);
+        }
+        for (int k = 6; k >= 0; k--) {
+            Checks.due("17: undo", z.undo(), k);
+            Checks.due("17: all is so again", state(z).equals(states[k]), true);
+        }
     }
 
     private static String state(BreathingHill x) {
@@ -321,6 +334,15 @@ public final class ActsTest {
         Checks.due("39: the prices stay", x.price(0), 10);
         Checks.due("39: what was logged stays", x.logged(2), 4);
         Checks.due("39: names too", Checks.log(x, "a ties;p walks 0;", 0), 0);
+        BreathingHill z = Checks.hill("breath 4 0 1 0;passage 2 1 0;passage 3 9 5;thing a 0 0 4 6;mill m 0 0;");
+        z.hours(2);
+        String inside = state(z);
+        z.image(1);
+        z.hours(2);
+        z.restore(1);
+        Checks.due("39: inside again", state(z).equals(inside), true);
+        z.hours(2);
+        Checks.due("39: beyond once", z.thing(0, 7), 1);
         BreathingHill y = Checks.hill("thing a 0 0 1 3;");
         y.image(1);
         Checks.sentence(y, "lost");

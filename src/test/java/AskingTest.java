@@ -6,6 +6,7 @@ public final class AskingTest {
     public static void main(String[] args) {
         promise18Letter();
         promise18LetterIsAThing();
+        promise18LetterIn400();
         promise19Heaviest();
         promise20Best();
         promise21Soonest();
@@ -74,6 +75,29 @@ public final class AskingTest {
         Checks.due("18: by hand", z.letter(0, 10, 1, 0), 45);
     }
 
+    /** A thing that is loosed at an HOUR is a letter let go then; some need just 400 HOURS. */
+    private static void promise18LetterIn400() {
+        String land = "long 20 20;breath 2 12 1 12;force 1;passage 9 1 0;thing a 0 7 1 0 tied;";
+        int least = 9999;
+        int most = 0;
+        for (int hour = 0; hour < 60; hour++) {
+            BreathingHill x = Checks.hill(land);
+            Checks.passTo(x, hour);
+            x.tie(0, 0);
+            int hours = 0;
+            while (x.thing(0, 7) == 0 && x.now(0) < 1000) {
+                x.hours(1);
+                hours++;
+            }
+            Checks.due("18: letter(0, 7, 1, " + hour + ")", x.letter(0, 7, 1, hour), hours > 400 ? -1 : hours);
+            least = Math.min(least, hours);
+            most = Math.max(most, hours);
+        }
+        Checks.due("18: it lies about 400: " + least + " to " + most, least <= 399 && most >= 402, true);
+        BreathingHill y = Checks.hill("force 9;passage 2 9 0;");
+        Checks.due("18: weight 9", y.letter(0, 0, 9, 0), 2);
+    }
+
     private static void promise19Heaviest() {
         BreathingHill x = Checks.hill("breath 5 0 5 0;force 9;passage 4 2 0;passage 3 5 0;passage 2 8 0;");
         Checks.due("19: any hours", x.heaviest(0, 0, 0, 400), 8);
@@ -89,6 +113,10 @@ public final class AskingTest {
             Checks.due("19: no such ones", y.heaviest(row[0], row[1], row[2], row[3]), -1);
         }
         Checks.due("19: near the end", y.heaviest(0, 0, 999, 400), -1);
+        BreathingHill z = Checks.hill("force 1;passage 2 9 0;");
+        Checks.due("19: only the lightest", z.heaviest(0, 0, 0, 400), 1);
+        BreathingHill w = Checks.hill("force 9;passage 2 9 0;");
+        Checks.due("19: the heaviest of all", w.heaviest(0, 0, 0, 400), 9);
     }
 
     private static void promise20Best() {
@@ -108,6 +136,9 @@ public final class AskingTest {
         Checks.due("20: bit 26 is the first of the next breath", y.best(0, 0, 4) >> 26, 1);
         Checks.passTo(y, 25);
         Checks.due("20: HOURS 25 to 37", y.best(0, 0, 4), (1 << 13) - 1);
+        BreathingHill w = Checks.hill("breath 12 12 12 12;held 1;passage 2 9 0;");
+        Checks.passTo(w, 48);
+        Checks.due("20: thirty hours", w.best(0, 0, 4), (1 << 30) - 1);
         BreathingHill z = Checks.hill("breath 2 0 2 0;passage 2 9 0;");
         Checks.passTo(z, 996);
         Checks.due("20: the last breath", z.best(0, 0, 4), 1);
@@ -183,6 +214,10 @@ public final class AskingTest {
         Checks.due("23: 30 of 26 hours for 2", y.dry(0, 0, 30), 14 * 26 + 14);
         Checks.due("23: in 391", y.dry(0, 0, 31), 391);
         Checks.due("23: 400 at most", y.dry(0, 0, 32), -1);
+        y.hours(3);
+        Checks.due("23: 401", y.dry(0, 0, 31), -1);
+        y.hours(1);
+        Checks.due("23: just 400", y.dry(0, 0, 31), 400);
     }
 
     private static void promise24Which() {
@@ -384,9 +419,9 @@ public final class AskingTest {
         meetIn200();
     }
 
-    /** b needs as many HOURS as there are; it is 199 or 200 HOURS away. */
+    /** 200 HOURS are looked at, not 201. */
     private static void meetIn200() {
-        String land = "long 20 20;breath 2 12 1 12;force 1;thing a 0 0 1 0 tied;thing b 0 8 1 0;";
+        String land = "long 20 20;breath 2 12 1 12;force 1;thing a 0 0 1 0 tied;thing b 0 12 1 0;";
         BreathingHill x = Checks.hill(land);
         int hour = 0;
         BreathingHill y = Checks.hill(land);
@@ -396,12 +431,11 @@ public final class AskingTest {
         }
         Checks.due("31: in " + hour + " hours", x.meet(0, 1), hour > 200 ? -2 : hour - 1);
         int first = hour - 200;
-        if (first > 0) {
-            Checks.passTo(x, first - 1);
-            Checks.due("31: 201 hours away", x.meet(0, 1), -2);
-            Checks.passTo(x, first);
-            Checks.due("31: 200 hours away", x.meet(0, 1), hour - 1);
-        }
+        Checks.due("31: it is more than 201 hours", first > 1, true);
+        Checks.passTo(x, first - 1);
+        Checks.due("31: 201 hours away", x.meet(0, 1), -2);
+        Checks.passTo(x, first);
+        Checks.due("31: 200 hours away", x.meet(0, 1), hour - 1);
     }
 
     private static void promise33Odds() {
@@ -427,6 +461,11 @@ public final class AskingTest {
         Checks.due("33: odds(0, 0, 1)", x.odds(0, 0, 1), -1);
         Checks.due("33: odds(0, 31, 1)", x.odds(0, 31, 1), -1);
         Checks.due("33: 30 seeds", x.odds(2, 30, Integer.MAX_VALUE), 0);
+        int one = 0;
+        for (int k = 0; k < 30; k++) {
+            one += x.odds(0, 1, Integer.MAX_VALUE - 9 + k);
+        }
+        Checks.due("33: one by one", x.odds(0, 30, Integer.MAX_VALUE - 9), one);
         BreathingHill z = Checks.hill("breath 12 0 1 0;passage 2 9 0;long 20 20;thing a 0 0 4 0;");
         z.hours(2);
         z.tie(0, 1);

@@ -227,6 +227,7 @@ public final class SayingTest {
     private static void promise36SentenceOfMany() {
         String twenty = "tied" + " or lost".repeat(19);
         due36(twenty, 20, 0);
+        due36("tied" + " and lost".repeat(19), 20, 0);
         due36(twenty + " or", 159, 1);
         due36(twenty + " or lost", 160, 4);
         due36(twenty + " or ( oops", 160, 4);

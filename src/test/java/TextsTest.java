@@ -6,6 +6,7 @@ public final class TextsTest {
         promise03End();
         promise04Land();
         promise04LandIsNew();
+        promise04NothingIsLeft();
         promise05FaultsOfTokens();
         promise05FaultsOfNumbers();
         promise05FaultsOfWhatIsTold();
@@ -102,6 +103,36 @@ public final class TextsTest {
         Checks.due("4: nothing can be undone", x.undo(), -1);
         Checks.due("4: valley", x.thing(0, 0), 1);
         Checks.due("4: cell", x.thing(0, 1), 3);
+    }
+
+    /** What one LAND tells is neither so nor told in the next one. */
+    private static void promise04NothingIsLeft() {
+        String full = "long 3 4;breath 1 2 3 4;force 9;fade 1;held 0;passage 2 9 1;thing a 0 0 1 0 tied;mill b 0 0;man c 0 0;";
+        BreathingHill x = Checks.hill(full);
+        Checks.passTo(x, 20);
+        x.walk(0, 1);
+        Checks.put(x, full);
+        Checks.due("4: the same once more", x.land(), 9);
+        Checks.due("4: no turns", x.mill(0, 2), 0);
+        Checks.due("4: no hours walked", x.man(0, 2), 0);
+        Checks.put(x, "force 9;oops");
+        Checks.due("4: a fault", x.land(), -9);
+        for (int k = 0; k < 2; k++) {
+            Checks.put(x, "thing a 0 0 1 0;mill b 0 0;man c 0 9;");
+            Checks.due("4: without settings", x.land(), 3);
+            int[] counts = {10, 10, 0, 1, 1, 1, 12};
+            for (int what = 0; what < counts.length; what++) {
+                Checks.due("4: count(" + what + ")", x.count(what), counts[what]);
+            }
+            int[] airs = {1, 1, 1, 1, 1, 0, 2, 2, 2, 2, 2, 0};
+            for (int hour = 0; hour < 36; hour++) {
+                Checks.due("4: air(0, " + hour + ")", x.air(0, hour), airs[hour % 12]);
+            }
+            Checks.due("4: force(0, 9)", x.force(0, 9), 4);
+            Checks.due("4: not tied", x.thing(0, 5), 0);
+            x.hours(1);
+        }
+        Checks.due("4: default force and fade", Checks.hill("long 20 20;").force(0, 19), 4);
     }
 
     private static void promise05FaultsOfTokens() {
