@@ -121,14 +121,14 @@ public final class RulesTest {
         return ((com.sun.management.ThreadMXBean) ManagementFactory.getThreadMXBean()).getThreadAllocatedBytes(Thread.currentThread().getId());
     }
 
-    /** The dearest calls, 512 of them: what they make stays far below the room. */
+    /** The dearest calls, some 500 of them: what they make stays far below the room. */
     private static void theRoom() {
         dearestCalls();
         long before = taken();
         dearestCalls();
         long all = taken() - before;
-        System.out.println("an object and 512 of its dearest calls take " + all + " bytes");
-        Checks.due("an object and 512 calls take little room", all < 200_000, true);
+        System.out.println("an object and some 500 of its dearest calls take " + all + " bytes");
+        Checks.due("an object and its calls take little room", all < 200_000, true);
     }
 
     private static void dearestCalls() {

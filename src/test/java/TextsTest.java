@@ -111,6 +111,8 @@ public final class TextsTest {
         BreathingHill x = Checks.hill(full);
         Checks.passTo(x, 20);
         x.walk(0, 1);
+        x.hours(1);
+        x.hours(1);
         Checks.put(x, full);
         Checks.due("4: the same once more", x.land(), 9);
         Checks.due("4: no turns", x.mill(0, 2), 0);
