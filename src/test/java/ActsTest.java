@@ -2,20 +2,8 @@
 public final class ActsTest {
     private static final String SETTING = "long 10 10;breath 3 1 3 1;force 4;fade 5;passage 3 2 5;passage 2 9 1;";
 
-    public static void main(String[] args) {
-        promise13Tie();
-        promise14Walk();
-        promise14WalkBySteps();
-        promise14WalkEnds();
-        promise15Cough();
-        promise17Undo();
-        promise17WhatIsKept();
-        promise17WhatIsUndone();
-        promise32Drawn();
-        promise32DrawnByHand();
-        promise38Image();
-        promise39Restore();
-        Checks.finish();
+    public static void main(String[] args) throws IllegalAccessException {
+        Checks.run(ActsTest.class);
     }
 
     private static void promise13Tie() {

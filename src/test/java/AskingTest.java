@@ -3,27 +3,8 @@ public final class AskingTest {
     private static final String LAND = "long 6 5;breath 3 1 3 1;force 4;fade 5;passage 3 2 5;passage 2 9 1;"
         + "thing otto 0 3 2 1;thing kiki 0 0 4 0;thing lo 1 4 2 2;thing pila 0 5 9 7 tied;man po 0 0;man bo 1 4;";
 
-    public static void main(String[] args) {
-        promise18Letter();
-        promise18LetterIsAThing();
-        promise18LetterIn400();
-        promise19Heaviest();
-        promise20Best();
-        promise21Soonest();
-        promise22Reach();
-        promise23Dry();
-        promise24Which();
-        promise24WhichByHours();
-        promise25Ties();
-        promise26Turn();
-        promise27Guard();
-        promise28Prices();
-        promise29Price();
-        promise30Later();
-        promise31Meet();
-        promise33Odds();
-        nothingIsChanged();
-        Checks.finish();
+    public static void main(String[] args) throws IllegalAccessException {
+        Checks.run(AskingTest.class);
     }
 
     private static void promise18Letter() {
@@ -476,7 +457,7 @@ public final class AskingTest {
     }
 
     /** None of the questions changes anything. */
-    private static void nothingIsChanged() {
+    private static void promise18To34NothingIsChanged() {
         BreathingHill x = Checks.hill(LAND);
         x.hours(1);
         x.best(0, 0, 4);

@@ -4,21 +4,8 @@ public final class SayingTest {
         + "thing otto 0 3 2 1;thing kiki 0 0 4 0;thing lo 1 4 2 2;thing pila 0 5 9 7 tied;"
         + "mill la 0 5;man po 0 0;man bo 1 4;";
 
-    public static void main(String[] args) {
-        promise34Log();
-        promise34LogLived();
-        promise34LogFaults();
-        promise34LogOfForty();
-        promise34LogTooLong();
-        promise35Logged();
-        promise35WhyWrong();
-        promise36Sentence();
-        promise36SentenceFaults();
-        promise36SentenceOfMany();
-        promise36SentenceTooLong();
-        promise37Said();
-        promise37SaidInAllWays();
-        Checks.finish();
+    public static void main(String[] args) throws IllegalAccessException {
+        Checks.run(SayingTest.class);
     }
 
     private static void promise34Log() {

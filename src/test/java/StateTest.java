@@ -4,20 +4,8 @@ public final class StateTest {
         + "thing otto 0 3 2 1;thing kiki 0 0 4 0;thing lo 1 4 2 2;thing pila 0 5 9 7 tied;"
         + "mill la 0 5;mill loo 1 0;man po 0 0;man bo 1 4;";
 
-    public static void main(String[] args) {
-        promise06Thing();
-        promise06Tables();
-        promise07Mill();
-        promise08Man();
-        promise09Passage();
-        promise10Now();
-        promise11Air();
-        promise12Force();
-        promise16Hours();
-        promise16Carried();
-        promise16Passages();
-        promise16Inside();
-        Checks.finish();
+    public static void main(String[] args) throws IllegalAccessException {
+        Checks.run(StateTest.class);
     }
 
     private static BreathingHill land() {

@@ -1,20 +1,7 @@
 /** Promises 1 to 5 and 40: a new object, the tape, a LAND and its FAULTS, counts. */
 public final class TextsTest {
-    public static void main(String[] args) {
-        promise01NewObject();
-        promise02Feed();
-        promise03End();
-        promise04Land();
-        promise04LandIsNew();
-        promise04NothingIsLeft();
-        promise05FaultsOfTokens();
-        promise05FaultsOfNumbers();
-        promise05FaultsOfWhatIsTold();
-        promise05FaultsOfMany();
-        promise05FaultOfLatestText();
-        promise05TooLong();
-        promise40Count();
-        Checks.finish();
+    public static void main(String[] args) throws IllegalAccessException {
+        Checks.run(TextsTest.class);
     }
 
     private static void promise01NewObject() {
