@@ -509,6 +509,19 @@ public final class EdgesOfActsTest {
         Checks.due("acts from then on can", x.undo(), 0);
     }
 
+    /** "nothing can be undone": however much could be ahead of it */
+    private static void promise39NothingCanBeUndone() {
+        BreathingHill x = Checks.busy();
+        Checks.due("restore(0)", x.restore(0), true);
+        Checks.due("undo()", x.undo(), -1);
+        for (int k = 0; k < 9; k++) {
+            x.hours(1);
+        }
+        x.restore(0);
+        Checks.due("undo()", x.undo(), -1);
+        Checks.due("the hour", x.now(0), 1);
+    }
+
     /** A SENTENCE that was not there is not there again; one that was is. */
     private static void promise39Sentence() {
         BreathingHill x = Checks.hill(Checks.LAND);

@@ -159,6 +159,17 @@ public final class EdgesOfAskingTest {
         Checks.due("hours 32 to 61", at(lost, 32).best(1, 0, 4), 3 << 28);
     }
 
+    /** "beyond at the soonest HOUR of all": what is let go later may be beyond sooner */
+    private static void promise20SoonestHourOfAll() {
+        // in valley 1 HOURS 0 to 2 carry it off, 3 to 5 leave it at the cleft, in HOUR 6 it goes in
+        BreathingHill x = Checks.hill("breath 3 3 9 3;passage 2 9 0;");
+        int[] hours = {11, 9, 7, 5, 4, 3, 2, 2};
+        for (int hour = 0; hour < hours.length; hour++) {
+            Checks.due("letter(1, 0, 4, " + hour + ")", x.letter(1, 0, 4, hour), hours[hour]);
+        }
+        Checks.due("best(1, 0, 4)", x.best(1, 0, 4), 15 << 3);
+    }
+
     /** "0: by none" */
     private static void promise20ByNone() {
         Checks.due("no passage", new BreathingHill().best(0, 0, 1), 0);
@@ -436,6 +447,13 @@ public final class EdgesOfAskingTest {
         Checks.due("it is not asked for", x.ties(14, 200), 0);
         BreathingHill over = at(Checks.LAND, 1000);
         Checks.due("no hour is left", over.ties(15, 200), 0);
+        BreathingHill y = Checks.hill("passage 9 9 0;thing a 0 0 1 0;thing b 1 9 1 0;");
+        Checks.due("both of them", y.ties(3, 1), 3);
+        y.hours(1);
+        Checks.due("inside and lost", y.ties(3, 200), 0);
+        BreathingHill z = Checks.hill("thing a 1 9 1 0;thing b 1 9 9 0;");
+        z.hours(1);
+        Checks.due("lost", z.ties(3, 200), 0);
     }
 
     // ---- promise 26 ----

@@ -139,6 +139,8 @@ public final class EdgesOfSayingTest {
         atFault(" ".repeat(399) + "otto ties;", 400, 1);
         atFault(" ".repeat(399) + "abcdefgh", 399, 1);
         atFault(Checks.padded("nobody", 401), 0, 3);
+        atFault(Checks.padded("coughs", 401), 400, 1);
+        atFault(Checks.padded("hour", 401), 400, 1);
     }
 
     /** "{ LINE ; }, 40 at most", "a 41st LINE of a LOG (at the LINE's first WORD)" */
@@ -412,6 +414,9 @@ public final class EdgesOfSayingTest {
         unsaid(" ".repeat(199) + "tieds", 199, 1);
         unsaid(" ".repeat(200) + "tieds", 200, 1);
         unsaid(Checks.padded("tied tied", 201), 5, 1);
+        // what came last can't come once more in the stead of what is too many
+        unsaid(Checks.padded("not", 201), 200, 1);
+        unsaid(Checks.padded("(", 201), 200, 1);
         unsaid("tied" + " or lost".repeat(19) + " or" + " ".repeat(37) + "lost", 196, 4);
         unsaid("tied" + " or lost".repeat(19) + " or" + " ".repeat(40) + "lost", 199, 4);
         unsaid("tied" + " or lost".repeat(19) + " or" + " ".repeat(41) + "lost", 200, 1);

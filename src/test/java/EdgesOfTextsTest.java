@@ -11,9 +11,11 @@ public final class EdgesOfTextsTest {
         Checks.run(EdgesOfTextsTest.class);
     }
 
-    /** A LAND without a FAULT: how many LINES, on a hill that has another LAND. */
+    /** A LAND without a FAULT: how many LINES, on a hill that has another LAND, nothing of which is left. */
     private static BreathingHill told(String text, int lines) {
         BreathingHill x = Checks.busy();
+        Checks.put(x, "long 3 4;breath 2 3 4 5;force 8;fade 2;held 0;");
+        x.land();
         Checks.put(x, text);
         Checks.due("land() of '" + text.trim() + "'", x.land(), lines);
         Checks.due("fault() of '" + text.trim() + "'", x.fault(), 0);
@@ -86,6 +88,16 @@ public final class EdgesOfTextsTest {
         Checks.due("undo()", x.undo(), -1);
         Checks.due("restore(0)", x.restore(0), false);
         Checks.due("restore(1)", x.restore(1), false);
+    }
+
+    /** "An object is used for at most 512 calls after it has been made": the 511th and the 512th answer as all do */
+    private static void promise01For512Calls() {
+        BreathingHill x = new BreathingHill();
+        for (int k = 1; k <= 510; k++) {
+            Checks.due("hours(1)", x.hours(1), 1);
+        }
+        Checks.due("undo()", x.undo(), 7);
+        Checks.due("now(0)", x.now(0), 509);
     }
 
     // ---- promise 2 ----
@@ -295,6 +307,10 @@ public final class EdgesOfTextsTest {
         refused(Checks.padded("force 0;", 901), 6, 2);
         refused(Checks.padded("force 4;fade", 940), 900, 1);
         refused(Checks.padded("force 4;oops", 940), 8, 1);
+        // what came last can't come once more in the stead of what is too many
+        refused(Checks.padded("thing a 0 0 9", 901), 900, 1);
+        refused(Checks.padded("long 5 5", 901), 900, 1);
+        refused(Checks.padded("long 5", 901), 900, 1);
     }
 
     /** "{ LINE ; }" */
@@ -550,9 +566,15 @@ public final class EdgesOfTextsTest {
         refused(text + "man", text.length(), 4);
     }
 
-    /** "A new LAND: HOUR 0, no SENTENCE" */
+    /** "A new LAND: HOUR 0, no SENTENCE": things, mills and men are as told */
     private static void promise04NewLand() {
-        BreathingHill x = told(Checks.LAND, 14);
+        BreathingHill x = Checks.busy();
+        x.walk(0, 5);
+        x.walk(1, 0);
+        x.hours(60);
+        x.hours(1);
+        Checks.put(x, Checks.LAND);
+        Checks.due("land()", x.land(), 14);
         Checks.due("now(0)", x.now(0), 0);
         Checks.due("said(-1)", x.said(-1), -1);
         Checks.due("undo()", x.undo(), -1);
@@ -560,6 +582,12 @@ public final class EdgesOfTextsTest {
         for (int t = 0; t < 4; t++) {
             for (int what = 0; what < 8; what++) {
                 Checks.due("thing(" + t + ", " + what + ")", x.thing(t, what), fresh.thing(t, what));
+            }
+        }
+        for (int m = 0; m < 2; m++) {
+            for (int what = 0; what < 3; what++) {
+                Checks.due("mill(" + m + ", " + what + ")", x.mill(m, what), fresh.mill(m, what));
+                Checks.due("man(" + m + ", " + what + ")", x.man(m, what), fresh.man(m, what));
             }
         }
         Checks.due("the image stays", x.restore(0), true);

@@ -4,8 +4,9 @@ import java.util.Random;
 
 /** Random runs of calls, by fixed seeds, on the class and on the Model at once: like answers are due. */
 public final class ModelTest {
-    private static final int RUNS = 1500;
-    private static final int CALLS = 500;
+    private static final int RUNS = 1700;
+    // an object is used for 512 calls, and a text takes up to some sixty of them
+    private static final int CALLS = 445;
     private static final String[] WORDS = {"long", "breath", "force", "fade", "held", "passage", "thing", "tied", "mill",
         "man", "ties", "looses", "walks", "hour", "coughs", "or", "and", "not", "inside", "beyond", "lost", "cell",
         "weight", "colour", "number", ";", "<", "=", ">", "(", ")", ".", "a", "b", "abcdefgh", "x1", "1000", "0", "1",
@@ -180,10 +181,10 @@ public final class ModelTest {
                     text.append("coughs");
                     break;
                 case 2:
-                    text.append(nameOf(hill.count(3) + hill.count(4), hill.count(5))).append(" walks ").append(near(20) & 31);
+                    text.append(nameOf(model.count(3) + model.count(4), model.count(5))).append(" walks ").append(near(20) & 31);
                     break;
                 default:
-                    text.append(nameOf(0, hill.count(3))).append(random.nextBoolean() ? " ties" : " looses");
+                    text.append(nameOf(0, model.count(3))).append(random.nextBoolean() ? " ties" : " looses");
                     break;
             }
             text.append(random.nextBoolean() ? ";" : " ;").append(random.nextInt(5) == 0 ? "\n" : "");
@@ -325,11 +326,11 @@ public final class ModelTest {
         int v = near(2);
         int cell = near(random.nextBoolean() ? 3 : 20);
         int weight = pick(1, 5) + (random.nextInt(9) == 0 ? near(9) : 0);
-        int hour = random.nextInt(3) > 0 ? near(1000) : hill.now(0);
+        int hour = random.nextInt(3) > 0 ? near(1000) : model.now(0);
         int t = near(8);
         int n = near(401);
         int seed = random.nextInt();
-        int set = near(1 << hill.count(3));
+        int set = near(1 << model.count(3));
         switch (random.nextInt(16)) {
             case 0: due("letter", hill.letter(v, cell, weight, hour), model.letter(v, cell, weight, hour)); break;
             case 1: due("heaviest", hill.heaviest(v, cell, hour, n), model.heaviest(v, cell, hour, n)); break;

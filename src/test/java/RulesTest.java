@@ -1,17 +1,22 @@
 import java.lang.management.ManagementFactory;
 import java.lang.reflect.Constructor;
 import java.lang.reflect.Field;
+import java.lang.reflect.InvocationTargetException;
 import java.lang.reflect.Method;
 import java.lang.reflect.Modifier;
 import java.nio.file.Files;
 import java.nio.file.Path;
 import java.util.Arrays;
+import java.util.Comparator;
 import java.util.HashSet;
 import java.util.List;
+import java.util.NoSuchElementException;
+import java.util.Random;
 import java.util.Set;
 import java.util.TreeSet;
 import java.util.regex.Matcher;
 import java.util.regex.Pattern;
+import java.util.stream.Stream;
 
 /** The public face, rules of LANGUAGE.md that can be seen from outside, and the room that calls take. */
 public final class RulesTest {
@@ -29,6 +34,8 @@ public final class RulesTest {
         theClassesInside();
         theSource();
         theRoom();
+        theTests();
+        nothingElseIsThrown();
         Checks.finish();
     }
 
@@ -147,5 +154,56 @@ public final class RulesTest {
             sum += x.later(1, 400) == -1 ? 1 : 0;
         }
         Checks.due("none of them was refused", sum, 0);
+    }
+
+    /** Each promise has tests named after it, of its ordinary answers and of its edges. */
+    private static void theTests() throws Exception {
+        for (int promise = 1; promise <= 40; promise++) {
+            String name = String.format("void promise%02d", promise);
+            int edges = 0;
+            int others = 0;
+            try (Stream<Path> files = Files.list(Path.of("src/test/java"))) {
+                for (Path file : files.toList()) {
+                    boolean has = Files.readString(file).contains(name);
+                    edges += has && file.getFileName().toString().startsWith("Edges") ? 1 : 0;
+                    others += has && !file.getFileName().toString().startsWith("Edges") ? 1 : 0;
+                }
+            }
+            Checks.due("promise " + promise + " has tests of its edges", edges > 0, true);
+            Checks.due("promise " + promise + " has other tests", others > 0, true);
+        }
+    }
+
+    /** Rule 7: whatever the numbers and the state, only thing() throws, and only what the document says. */
+    private static void nothingElseIsThrown() throws Exception {
+        int[] numbers = {Integer.MIN_VALUE, Integer.MIN_VALUE + 1, -1001, -1000, -32, -9, -2, -1, 0, 1, 2, 3, 4, 5, 7, 8, 9, 10, 15,
+            19, 20, 21, 29, 30, 31, 32, 60, 61, 99, 100, 200, 201, 255, 256, 400, 401, 940, 999, 1000, 1001, 65536,
+            Integer.MAX_VALUE - 1, Integer.MAX_VALUE};
+        Random random = new Random(1);
+        Method[] calls = BreathingHill.class.getDeclaredMethods();
+        Arrays.sort(calls, Comparator.comparing(Method::getName));
+        for (int run = 0; run < 400; run++) {
+            BreathingHill x = run % 3 == 0 ? new BreathingHill() : Checks.busy();
+            for (int k = 0; k < 400; k++) {
+                Method call = calls[random.nextInt(calls.length)];
+                if (!Modifier.isPublic(call.getModifiers())) {
+                    continue;
+                }
+                Object[] given = new Object[call.getParameterCount()];
+                for (int n = 0; n < given.length; n++) {
+                    given[n] = random.nextInt(9) == 0 ? random.nextInt() : numbers[random.nextInt(numbers.length)];
+                }
+                dueNothingElse(x, call, given);
+            }
+        }
+    }
+
+    private static void dueNothingElse(BreathingHill x, Method call, Object[] given) throws Exception {
+        try {
+            call.invoke(x, given);
+        } catch (InvocationTargetException e) {
+            boolean told = call.getName().equals("thing") && e.getCause() instanceof NoSuchElementException;
+            Checks.due("rule 7: " + call.getName() + Arrays.toString(given) + " throws " + e.getCause(), told, true);
+        }
     }
 }

@@ -134,6 +134,9 @@ public final class StateTest {
         int[] whole = {1, 1, 0, 2, 2, 2};
         int[] other = {0, 2, 1};
         for (int hour = 0; hour < 1000; hour++) {
+            if (hour % 200 == 0) {
+                x = Checks.hill("breath 2 1 3 0;held 2;");
+            }
             int want = hour / 6 == 2 ? 0 : whole[hour % 6];
             Checks.due("11: air(0, " + hour + ")", x.air(0, hour), want);
             Checks.due("11: air(1, " + hour + ")", x.air(1, hour), other[want]);
