@@ -481,7 +481,7 @@ public final class EdgesOfTextsTest {
             refused("thing " + word + " 0 0 1 0;", 6, 1);
             refused("mill " + word + " 0 0;", 5, 1);
             refused("man " + word + " 0 0;", 4, 1);
-            String beside = word.substring(0, word.length() - 1) + (char) (word.charAt(word.length() - 1) == 'z' ? 'a' : 'z');
+            String beside = word.substring(0, word.length() - 1) + (word.charAt(word.length() - 1) == 'z' ? 'a' : 'z');
             told("man " + beside + " 0 0;", 1);
         }
         told("man in 0 0;man still 0 0;man out 0 0;man name 0 0;", 4);
